@@ -701,7 +701,6 @@ public final class CelHouse {
         }
 
         void setBetween(Stroke a, Stroke b, int n, int d) {
-            name = a.name;
             fromX = partWay(a.fromX, b.fromX, n, d);
             fromY = partWay(a.fromY, b.fromY, n, d);
             toX = partWay(a.toX, b.toX, n, d);

@@ -147,6 +147,7 @@ public final class DrawingsTest {
         x.pen(9, 9);
         x.paint(0, 6);
         check.due("a paint more of a", x.point(2, 9, 9), 6);
+        check.due("paints with one more", x.of(2, 1), 2);
         Looks.dot(x, 0, 5, 12, 0, 1);
         Looks.dot(x, 0, 6, 14, 0, 1);
         Looks.dot(x, 1, 5, 12, 0, 1);
@@ -359,6 +360,14 @@ public final class DrawingsTest {
         Looks.dot(x, 0, 7, 0, 3, 1);
         check.due("a wall beside", x.of(0, 5), 3);
         check.due("no paints", x.of(0, 3), 8);
+        x.key();
+        x.gaps(1);
+        Looks.dot(x, 1, 0, 0, 0, 1);
+        Looks.dot(x, 1, 1, 0, 2, 1);
+        Looks.dot(x, 1, 2, 15, 9, 1);
+        Looks.dot(x, 1, 3, 15, 11, 1);
+        Looks.dot(x, 1, 4, 13, 11, 1);
+        check.due("walls at the border", x.of(1, 5), 3);
     }
 
     private static void drawingsAreApproved() {

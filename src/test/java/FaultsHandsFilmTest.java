@@ -61,6 +61,13 @@ public final class FaultsHandsFilmTest {
         x.scene(1, 0);
         x.expose(1, 0, 0, 0);
         check.due("the only frame", x.faults(1, 0), 0);
+        x.scene(3, 0);
+        x.expose(2, 0, 0, 0);
+        x.expose(2, 0, 1, 1);
+        x.expose(2, 1, 0, 1);
+        x.expose(2, 0, 2, 0);
+        check.due("the lowest level", x.faults(2, 1), 2);
+        check.due("the last frame, where another level begins as it was", x.faults(2, 2), 0);
     }
 
     private static void flashesOfVoices() {
