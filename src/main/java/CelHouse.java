@@ -24,6 +24,7 @@ public final class CelHouse {
     private int pegCount;
     private final int[] speeds;
     private int handCount;
+    private final int[] busyUntil;
     private final int[] splices;
     private int spliceCount;
     private final int[] composed;
@@ -41,6 +42,7 @@ public final class CelHouse {
         Arrays.fill(mouths, NONE);
         pegs = new Peg[MOST_PEGS];
         speeds = new int[MOST_HANDS];
+        busyUntil = new int[MOST_HANDS];
         splices = new int[MOST_SPLICES];
         composed = new int[POINTS];
         sketch = new Picture();
@@ -418,11 +420,11 @@ public final class CelHouse {
         if (hand < 0 || hand >= handCount) {
             throw new IndexOutOfBoundsException("no such hand");
         }
-        int[] busyUntil = new int[MOST_HANDS];
+        Arrays.fill(busyUntil, 0);
         for (int i = 0; i < drawingCount; i++) {
             int strokes = drawings[i].strokeCount;
             if (drawings[i].isKey() && strokes > 0) {
-                int free = firstFree(busyUntil);
+                int free = firstFree();
                 int speed = Math.max(1, speeds[free]);
                 busyUntil[free] += (strokes + speed - 1) / speed;
             }
@@ -669,7 +671,7 @@ public final class CelHouse {
 
     // ---- hands and the film
 
-    private int firstFree(int[] busyUntil) {
+    private int firstFree() {
         int free = 0;
         for (int i = 1; i < handCount; i++) {
             if (busyUntil[i] < busyUntil[free]) {

@@ -33,7 +33,8 @@ public final class FramesTest {
         check.due("a level that is blank", Looks.frame(x, 0, 1, 3, 3), ".../111/...");
     }
 
-    private static void levelsAreMoved() {
+    /** A box on the level 0, and on the level 1 a dot, which hangs on a peg that moves. */
+    private static CelHouse withBoxAndDot() {
         CelHouse x = new CelHouse();
         x.key();
         x.key();
@@ -47,20 +48,30 @@ public final class FramesTest {
         x.move(0, 0, 0, 0);
         x.move(0, 2, 2, 1);
         x.hang(0, 1, 0, 1);
+        return x;
+    }
+
+    private static CelHouse withCameraAt(int column, int row) {
+        CelHouse x = withBoxAndDot();
+        x.move(1, 0, column, row);
+        x.hang(0, 4, 1, 1);
+        x.hang(0, 1, -1, 2);
+        return x;
+    }
+
+    private static void levelsAreMoved() {
+        CelHouse x = withBoxAndDot();
         check.due("at the frame 0", Looks.frame(x, 0, 0, 4, 4), "111./151./111./....");
         check.due("at the frame 1", Looks.frame(x, 0, 1, 4, 4), "111./1.5./111./....");
         check.due("at the frame 2", Looks.frame(x, 0, 2, 4, 4), "111./1.1./1115/....");
-        x.move(1, 0, 2, 1);
-        x.hang(0, 4, 1, 1);
-        x.hang(0, 1, -1, 2);
         // the box goes by -2 and -1, the dot by -1 and 0
-        check.due("with a camera", Looks.frame(x, 0, 0, 4, 4), "1.../5.../..../....");
-        check.due("points then, and anew", Looks.count(x, 0, 0), 2);
-        x.move(1, 0, -20, 0);
-        check.due("out of sight", Looks.count(x, 0, 0), 1);
-        x.move(1, 0, -15, -11);
-        check.due("at the last point", x.seen(0, 0, 15, 11), 1);
-        check.due("points then, and anew, of two levels", Looks.count(x, 0, 0), 2);
+        CelHouse near = withCameraAt(2, 1);
+        check.due("with a camera", Looks.frame(near, 0, 0, 4, 4), "1.../5.../..../....");
+        check.due("points then, and anew", Looks.count(near, 0, 0), 2);
+        check.due("out of sight", Looks.count(withCameraAt(-20, 0), 0, 0), 1);
+        CelHouse far = withCameraAt(-15, -11);
+        check.due("at the last point", far.seen(0, 0, 15, 11), 1);
+        check.due("points then, and anew, of two levels", Looks.count(far, 0, 0), 2);
     }
 
     private static void palettesColourFrames() {
@@ -81,7 +92,8 @@ public final class FramesTest {
         check.due("where nothing is anew", x.seenAnew(1, 0, 1, 0), 0);
     }
 
-    private static void fieldsAreSeenAnew() {
+    /** A field with a gap of one point, another field, and one between both, which join it from frame to frame. */
+    private static CelHouse withFields() {
         CelHouse x = new CelHouse();
         x.key();
         x.key();
@@ -99,15 +111,22 @@ public final class FramesTest {
         x.expose(0, 0, 0, 0);
         x.expose(0, 2, 1, 1);
         x.expose(0, 1, 2, 2);
+        return x;
+    }
+
+    private static void fieldsAreSeenAnew() {
         // 23 lines, which are a box of 7 times 7 less one gap, and inside 5 times 5
-        check.due("a closed field, and anew", Looks.count(x, 0, 0), 48);
+        check.due("a closed field, and anew", Looks.count(withFields(), 0, 0), 48);
         // 7 times 7 and 9 times 8, of which 5 times 6 are both
-        check.due("two fields, and anew", Looks.count(x, 0, 1), 91);
-        check.due("with a between, and anew", Looks.count(x, 0, 2) / 1000, 0);
-        x.gaps(0);
-        check.due("an open field, and anew", Looks.count(x, 0, 0), 192);
-        check.due("an open field's last paint", x.seenAnew(0, 0, 0, 0), 6);
-        check.due("all of it under a field, and anew", Looks.count(x, 0, 1), 192);
+        check.due("two fields, and anew", Looks.count(withFields(), 0, 1), 91);
+        check.due("with a between, and anew", Looks.count(withFields(), 0, 2) / 1000, 0);
+        CelHouse open = withFields();
+        open.gaps(0);
+        check.due("an open field, and anew", Looks.count(open, 0, 0), 192);
+        check.due("an open field's last paint", open.seenAnew(0, 0, 0, 0), 6);
+        CelHouse under = withFields();
+        under.gaps(0);
+        check.due("all of it under a field, and anew", Looks.count(under, 0, 1), 192);
     }
 
     private static void whatChangedIsShot() {
