@@ -112,6 +112,16 @@ final class DrawingEdges {
                 x.erase(0, name);
                 check.due("the one ahead of it is seen", x.point(0, 5, 5), name + 1);
             }
+            CelHouse y = withKeys(1);
+            for (int name = 0; name < 8; name++) {
+                Looks.dot(y, 0, name, 5, 5, name);
+            }
+            for (int name = 0; name < 7; name += 2) {
+                y.erase(0, name);
+                check.due("the last one is seen without one ahead of it", y.point(0, 5, 5), 7);
+            }
+            y.erase(0, 7);
+            check.due("then the one that is the last", y.point(0, 5, 5), 5);
         });
         the.test("(one that is drawn anew keeps its place)", () -> {
             CelHouse x = withKeys(1);

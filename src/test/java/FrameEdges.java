@@ -64,6 +64,16 @@ final class FrameEdges {
             x.expose(0, 1, 0, 3);
             x.expose(0, 0, 0, NONE);
             check.due("on a lower level, too", seen(x, 0, 8, 6), 8);
+            CelHouse y = with(4, 1);
+            for (int level = 0; level < 4; level++) {
+                y.expose(0, level, 0, 3 - level);
+                y.hang(0, level, NONE, level + 1);
+            }
+            check.due("depths do not matter", seen(y, 0, 8, 6), 1);
+            for (int level = 0; level < 4; level++) {
+                y.hang(0, level, NONE, 4 - level);
+            }
+            check.due("the other way, too", seen(y, 0, 8, 6), 1);
         });
         the.test("being moved", () -> {
             // a dot in each corner, moved until it is at the last point that is seen, and one more
