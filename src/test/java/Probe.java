@@ -1,11 +1,13 @@
-/** Asks a house for all that it tells, and then calls what tells what was there before: it is another house then. */
+/**
+ * Asks a house for all that it tells, and then calls what answers by what was there before: it is another house then.
+ * It takes some 200 to 360 calls, as much as stands in the house.
+ */
 final class Probe {
-    private static final int[][] POINTS = {{0, 0}, {1, 0}, {9, 7}};
+    private static final int MOST_FRAMES = 3;
+    private static final int[][] POINTS = {{0, 0}, {1, 0}};
 
     private final CelHouse house;
     private final StringBuilder text = new StringBuilder();
-    private int drawings, scenes;
-    private final int[] frames = new int[6];
 
     private interface Asked {
         long answer();
@@ -15,15 +17,33 @@ final class Probe {
         house = probed;
     }
 
-    /** What a house answers; it is told of some 160 to 320 calls, as much as stands in it. */
+    /** What a house answers to questions, and to calls then. */
     static String of(CelHouse house) {
         Probe probe = new Probe(house);
-        probe.askDrawings();
         probe.askScenes();
+        probe.askDrawings();
         probe.askHandsAndFilm();
-        probe.changeSheets();
-        probe.changeTheRest();
+        probe.changeAll();
         return probe.text.toString();
+    }
+
+    /** What a house answers to calls that are no questions. */
+    static String byCallsAlone(CelHouse house) {
+        Probe probe = new Probe(house);
+        probe.changeAll();
+        return probe.text.toString();
+    }
+
+    /** The first answer that is not as that of an untouched house, and that one; an empty text if all are alike. */
+    static String difference(String answers, String untouched) {
+        String[] got = answers.split("\n");
+        String[] due = untouched.split("\n");
+        for (int i = 0; i < Math.min(got.length, due.length); i++) {
+            if (!got[i].equals(due[i])) {
+                return got[i] + ", untouched " + due[i];
+            }
+        }
+        return got.length == due.length ? "" : got.length + " answers, untouched " + due.length;
     }
 
     /** Whether there was an answer, and no exception. */
@@ -35,69 +55,99 @@ final class Probe {
     }
 
     private void askDrawings() {
-        while (tell("strokes of " + drawings, () -> house.of(drawings, 0))) {
-            for (int what = 1; what < 6; what++) {
-                int asked = what;
-                tell("of " + drawings + ", " + what, () -> house.of(drawings, asked));
+        boolean isThere = true;
+        for (int drawing = 0; isThere; drawing++) {
+            int asked = drawing;
+            isThere = tell("strokes of " + drawing, () -> house.of(asked, 0));
+            for (int what = 1; what < 6 && isThere; what++) {
+                int told = what;
+                tell("of " + drawing + ", " + what, () -> house.of(asked, told));
             }
-            drawings++;
         }
     }
 
     private void askScenes() {
-        while (scenes < 6 && tell("has " + scenes + ", frame 0", () -> house.has(scenes, 0, 0))) {
-            while (frames[scenes] < 3 && tell("faults " + scenes, () -> house.faults(scenes, frames[scenes]))) {
-                askFrame(scenes, frames[scenes]);
-                frames[scenes]++;
+        boolean isThere = true;
+        for (int scene = 0; isThere; scene++) {
+            int asked = scene;
+            isThere = askFrame(scene, 0);
+            for (int frame = 1; frame < MOST_FRAMES && isThere && askFrame(scene, frame); frame++) {
+                continue;
             }
-            tell("stale " + scenes, () -> house.stale(scenes));
-            scenes++;
+            tell("stale " + scene, () -> house.stale(asked));
         }
     }
 
-    private void askFrame(int scene, int frame) {
+    private boolean askFrame(int scene, int frame) {
         String place = " " + scene + ", " + frame;
-        for (int level = 0; level < 4; level++) {
+        boolean isThere = true;
+        for (int[] point : POINTS) {
+            isThere = isThere && tell("shot" + place, () -> house.shot(scene, frame, point[0], point[1]))
+                    && tell("seen" + place, () -> house.seen(scene, frame, point[0], point[1]));
+        }
+        for (int level = 0; level < 4 && isThere; level++) {
             int asked = level;
             tell("has" + place, () -> house.has(scene, asked, frame));
         }
-        tell("moved in x" + place, () -> house.moved(scene, 0, frame, true));
-        tell("moved in y" + place, () -> house.moved(scene, 3, frame, false));
-        for (int[] point : POINTS) {
-            tell("shot" + place, () -> house.shot(scene, frame, point[0], point[1]));
-            tell("seen" + place, () -> house.seen(scene, frame, point[0], point[1]));
+        if (isThere) {
+            tell("moved in x" + place, () -> house.moved(scene, 0, frame, true));
+            tell("moved in y" + place, () -> house.moved(scene, 3, frame, false));
+            tell("faults" + place, () -> house.faults(scene, frame));
         }
+        return isThere;
     }
 
     private void askHandsAndFilm() {
-        int[] at = new int[2];
-        while (at[0] < 5 && tell("hours " + at[0], () -> house.hours(at[0]))) {
-            at[0]++;
-        }
-        while (at[1] < 20 && tell("film " + at[1], () -> house.film(at[1]))) {
-            at[1]++;
+        for (int i = 0; i < 4; i++) {
+            int at = i;
+            tell("hours " + i, () -> house.hours(at));
+            tell("film " + i, () -> house.film(at));
         }
     }
 
-    private void changeSheets() {
-        for (int scene = 0; scene < scenes; scene++) {
+    private void changeAll() {
+        changePen();
+        boolean isThere = true;
+        for (int scene = 0; scene < 6 && isThere; scene++) {
             int told = scene;
-            for (int level = 0; level < 4; level++) {
+            isThere = tell("shoot " + scene, () -> house.shoot(told));
+            for (int frame = 0; frame < MOST_FRAMES && isThere; frame++) {
+                changeFrame(scene, frame);
+            }
+            for (int level = 0; level < 4 && isThere; level++) {
                 int changed = level;
-                for (int frame = 0; frame < frames[scene]; frame++) {
-                    int at = frame;
-                    tell("expose " + scene + ", " + level + ", " + frame, () -> house.expose(told, changed, at, 123));
-                }
                 tell("speaks " + scene + ", " + level, () -> house.speaks(told, changed) ? 1 : 0);
             }
-            for (int frame = frames[scene] - 1; frame >= 0; frame--) {
-                int at = frame;
-                tell("voice " + scene + ", " + frame, () -> house.voice(told, at, 6));
-            }
         }
+        changeDrawings();
+        changeTheRest();
     }
 
     /** The pen stands at (9, 7) in the houses that are probed: a dot is a dot, unless it was moved. */
+    private void changePen() {
+        tell("a stroke of the key 0", () -> house.stroke(0, 7, 9, 7, 1));
+        tell("its lines", () -> house.of(0, 4));
+    }
+
+    private void changeFrame(int scene, int frame) {
+        String place = " " + scene + ", " + frame;
+        boolean isThere = tell("voice" + place, () -> house.voice(scene, frame, 6));
+        for (int level = 0; level < 4 && isThere; level++) {
+            int changed = level;
+            tell("expose" + place, () -> house.expose(scene, changed, frame, 123));
+        }
+    }
+
+    private void changeDrawings() {
+        for (int i = 0; i < 4; i++) {
+            int drawing = i;
+            tell("erase of " + i, () -> house.erase(drawing, 3) ? 1 : 0);
+            tell("paint of " + i, () -> house.paint(drawing, 6));
+            tell("gaps of " + i, () -> house.gaps(drawing) ? 1 : 0);
+            tell("approve " + i, () -> house.approve(drawing, true));
+        }
+    }
+
     private void changeTheRest() {
         for (int i = 0; i < 32; i++) {
             int at = i;
@@ -111,8 +161,6 @@ final class Probe {
             int at = i;
             tell("move " + i, () -> house.move(at, 22, 1, 1));
         }
-        tell("a stroke of the key 0", () -> house.stroke(0, 7, 9, 7, 1));
-        tell("its lines", () -> house.of(0, 4));
         tell("another peg", () -> house.peg(CelHouse.NONE));
         tell("another hand", () -> house.hand(1));
         tell("another scene", () -> house.scene(1, 0));
