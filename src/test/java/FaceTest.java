@@ -5,6 +5,7 @@ import java.lang.reflect.Method;
 import java.lang.reflect.Modifier;
 import java.nio.charset.StandardCharsets;
 import java.nio.file.Files;
+import java.nio.file.Path;
 import java.nio.file.Paths;
 import java.util.Arrays;
 import java.util.Set;
@@ -14,6 +15,7 @@ import java.util.regex.Pattern;
 /** The public face as the document has it, and those rules of LANGUAGE.md that a look at the file can tell. */
 public final class FaceTest {
     private static final Check check = new Check();
+    private static final Path FILE = Paths.get("src/main/java/CelHouse.java");
     private static final String I = "IndexOutOfBoundsException", A = "IllegalArgumentException", S = "IllegalStateException";
 
     private static final String[] FACE = {
@@ -41,6 +43,7 @@ public final class FaceTest {
 
     public static void main(String[] args) throws IOException {
         faceIsTheDocuments();
+        faceIsWrittenAsInTheDocument();
         nothingElseIsVisible();
         fileKeepsToTheRules();
         check.end();
@@ -60,6 +63,25 @@ public final class FaceTest {
         check.due("constructors", constructors.length, 1);
         check.due("the constructor", constructors[0].getModifiers(), Modifier.PUBLIC);
         check.due("the constructor's arguments", constructors[0].getParameterCount(), 0);
+    }
+
+    /** The names of the arguments, and the constants with what they are, can be seen in the file alone. */
+    private static void faceIsWrittenAsInTheDocument() throws IOException {
+        String document = new String(Files.readAllBytes(Paths.get("../shared/DOC.md")), StandardCharsets.UTF_8);
+        String code = new String(Files.readAllBytes(FILE), StandardCharsets.US_ASCII).replaceAll("\\s+", " ");
+        int begin = document.indexOf("```java");
+        int end = document.indexOf("```", begin + 1);
+        check.due("the document has a face", begin >= 0 && end > begin, true);
+        int count = 0;
+        for (String line : document.substring(Math.max(0, begin), Math.max(0, end)).split("\n")) {
+            String member = line.trim();
+            if (member.startsWith("public ")) {
+                String written = member.endsWith(");") || member.contains(" throws ") ? member.replace(";", " {") : member;
+                check.due("the file has " + written, code.contains(written), true);
+                count++;
+            }
+        }
+        check.due("members of the face, and the class", count, FACE.length + 4);
     }
 
     private static void nothingElseIsVisible() {
@@ -93,7 +115,7 @@ public final class FaceTest {
     }
 
     private static void fileKeepsToTheRules() throws IOException {
-        byte[] bytes = Files.readAllBytes(Paths.get("src/main/java/CelHouse.java"));
+        byte[] bytes = Files.readAllBytes(FILE);
         for (byte each : bytes) {
             check.due("a sign of the file is 1 to 127", each > 0, true);
         }
